@@ -294,6 +294,7 @@ public final class HeardTest {
         Checks.due("doubt(0) of nothing", x.doubt(0), NO);
         Checks.due("doubt(11) of nothing", x.doubt(11), NO);
         Checks.due("doubt(-1) of nothing", x.doubt(-1), BAD);
+        Checks.due("doubt(12) of nothing: no message is so long", x.doubt(12), BAD);
         x.word(2, 1);
         x.word(2, 1);
         Checks.due("doubt(0) with no phrases", x.doubt(0), NO);

@@ -22,6 +22,7 @@ public final class WordsTest {
         leastTakesTheFirstOfLikeOnes();
         leastThatIsNot();
         leastThatIsSpent();
+        leastAtTheEdgeOfSpent();
         lengthBeatAndEndingAt();
         howFar();
         Checks.finish("WordsTest");
@@ -319,6 +320,38 @@ public final class WordsTest {
         Checks.dueAndNothingChanged(x, before, "least()", x.least(), SPENT);
         Checks.due("length(0) stays", x.length(0), 1);
         Checks.dueAndNothingChanged(x, before, "least() again", x.least(), SPENT);
+    }
+
+    /** Found by trying: 20000 phrases looked at, or 20001, as PlainTongue counts them, too. */
+    private static void leastAtTheEdgeOfSpent() {
+        dueLooks(20000, 15, 1, new int[][] {{2, 2, 3, 1}, {1, 3, 4, 1}, {1, 2, 1, 2, 1}, {0, 3, 1, 1, 1}});
+        dueLooks(20000, 17, 3, new int[][] {{3, 1, 1, 3, 3}, {2, 0, 1, 3, 4}, {1, 1, 2, 2}, {1, 1, 2, 3}});
+        dueLooks(20000, 56, 2, new int[][] {{5, 5}, {3, 6}, {6, 6, 1, 3, 5, 2, 4, 3, 6},
+            {9, 27, 1, 0, 28, 0, 3, 4, 43}});
+        dueLooks(20001, SPENT, 1, new int[][] {{1, 1, 1, 1}, {0, 0, 0, 0}, {4, 1, 2, 5, 2}, {5, 1, 0, 7, 3}});
+        dueLooks(20001, SPENT, 3, new int[][] {{2, 2, 1, 2, 1}, {1, 0, 0, 2, 1}, {4, 2, 4, 4}, {6, 3, 6, 15}});
+        dueLooks(20001, SPENT, 1, new int[][] {{3, 1}, {6, 1}, {3, 5, 5, 5, 4, 2}, {3, 14, 22, 30, 2, 1}});
+    }
+
+    /** Rows: endings' beats, their numbers, words' beats, their numbers. */
+    private static void dueLooks(int looks, int due, int bound, int[][] rows) {
+        DrumTongue x = new DrumTongue();
+        PlainTongue plain = new PlainTongue();
+        for (int i = 0; i < rows[0].length; i++) {
+            x.ending(rows[0][i], rows[1][i]);
+            plain.ending(rows[0][i], rows[1][i]);
+        }
+        for (int i = 0; i < rows[2].length; i++) {
+            x.word(rows[2][i], rows[3][i]);
+            plain.word(rows[2][i], rows[3][i]);
+        }
+        x.bound(bound);
+        plain.bound(bound);
+        Checks.due("choose() at the edge", x.choose(), plain.choose());
+        Checks.due("least() of " + looks + " looks", x.least(), due);
+        Checks.due("plain least() of " + looks + " looks", plain.least(), due);
+        Checks.due("plain looks", plain.looks(), looks);
+        Checks.due("digest behind least()", x.digest(), plain.digest());
     }
 
     private static void lengthBeatAndEndingAt() {
