@@ -135,14 +135,11 @@ public final class DrumTongue {
     }
 
     public int doubt(int i) {
-        // No message is so long, whatever is read: that number is wrong ahead of any NO.
-        if (i < 0 || i >= Reader.MOST_WORDS) {
-            return BAD;
-        }
+        // NO ahead of BAD: which numbers are words of it shows only when it has been read.
         if (!reader.readNow()) {
             return NO;
         }
-        return i < reader.sizeNow() ? reader.doubtAt(i) : BAD;
+        return i >= 0 && i < reader.sizeNow() ? reader.doubtAt(i) : BAD;
     }
 
     public int most() {
@@ -645,7 +642,7 @@ public final class DrumTongue {
      * how much the part up to that place (or the part from it on) is off from some row of words.
      */
     private static final class Reader {
-        static final int MOST_WORDS = 12;
+        private static final int MOST_WORDS = 12;
         private static final int PLACES = Ear.MOST_HEARD + 1;
         private static final int OTHER_BEAT = 2;
         private static final int BEAT_LOST = 3;

@@ -291,13 +291,13 @@ public final class HeardTest {
 
     private static void doubtRefused() {
         DrumTongue x = new DrumTongue();
-        Checks.due("doubt(0) of nothing", x.doubt(0), NO);
-        Checks.due("doubt(11) of nothing", x.doubt(11), NO);
-        Checks.due("doubt(-1) of nothing", x.doubt(-1), BAD);
-        Checks.due("doubt(12) of nothing: no message is so long", x.doubt(12), BAD);
+        doubtIsNo(x, "with no words");
         x.word(2, 1);
         x.word(2, 1);
-        Checks.due("doubt(0) with no phrases", x.doubt(0), NO);
+        doubtIsNo(x, "with no phrases");
+        hearAll(x, "01");
+        doubtIsNo(x, "with no phrases, something heard");
+        x.hush();
         Checks.due("choose()", x.choose(), 1);
         Checks.due("doubt(0) of nothing heard", x.doubt(0), BAD);
         hearAll(x, "01");
@@ -306,8 +306,17 @@ public final class HeardTest {
         for (int i : new int[] {1, 11, 12, -1, MAX, MIN}) {
             Checks.dueAndNothingChanged(x, before, "doubt(" + i + ")", x.doubt(i), BAD);
         }
+        x.read();
         x.bound(1);
-        Checks.due("doubt(0) behind bound()", x.doubt(0), NO);
+        doubtIsNo(x, "behind bound(), with a word read last");
+    }
+
+    /** Nothing can be read now: NO as read(), whatever the number is. */
+    private static void doubtIsNo(DrumTongue x, String when) {
+        long before = x.digest();
+        for (int i : new int[] {0, 1, 11, 12, 59, 60, 26283632, -1, -2, MAX, MIN}) {
+            Checks.dueAndNothingChanged(x, before, "doubt(" + i + ") " + when, x.doubt(i), NO);
+        }
     }
 
     private static void most() {
