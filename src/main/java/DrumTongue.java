@@ -135,11 +135,14 @@ public final class DrumTongue {
     }
 
     public int doubt(int i) {
-        // NO ahead of BAD: which numbers are words of it shows only when it has been read.
+        if (i < 0) {
+            return BAD;
+        }
+        // NO ahead of "not so many": how many words there are shows only when it has been read.
         if (!reader.readNow()) {
             return NO;
         }
-        return i >= 0 && i < reader.sizeNow() ? reader.doubtAt(i) : BAD;
+        return i < reader.sizeNow() ? reader.doubtAt(i) : BAD;
     }
 
     public int most() {

@@ -272,6 +272,7 @@ public final class HeardTest {
         hearAll(x, "???");
         Checks.due("doubt(0) of gaps", x.doubt(0), 0);
         doubtHoldsTheOtherWords();
+        doubtWithTheOtherWordLost();
     }
 
     /** The other words of the row stay where they are, though another row may be less off. */
@@ -289,6 +290,18 @@ public final class HeardTest {
         Checks.due("doubt(1) of 00", x.doubt(1), 17);
     }
 
+    /** The best other word is not heard at all: its beat is lost, and the rest takes all that was heard. */
+    private static void doubtWithTheOtherWordLost() {
+        DrumTongue x = new DrumTongue();
+        x.word(1, 0);
+        x.word(3, 6);
+        x.choose();
+        hearAll(x, "1101101111011");
+        Checks.due("read() of 1101101111011", x.read(), 6);
+        Checks.due("words of 1101101111011", x.count(7), 5);
+        Checks.due("doubt(0), 0 for 110", x.doubt(0), 4);
+    }
+
     private static void doubtRefused() {
         DrumTongue x = new DrumTongue();
         doubtIsNo(x, "with no words");
@@ -300,6 +313,7 @@ public final class HeardTest {
         x.hush();
         Checks.due("choose()", x.choose(), 1);
         Checks.due("doubt(0) of nothing heard", x.doubt(0), BAD);
+        Checks.due("doubt(-1) of nothing heard", x.doubt(-1), BAD);
         hearAll(x, "01");
         Checks.due("doubt(0): no other word has a phrase", x.doubt(0), NONE);
         long before = x.digest();
@@ -311,11 +325,14 @@ public final class HeardTest {
         doubtIsNo(x, "behind bound(), with a word read last");
     }
 
-    /** Nothing can be read now: NO as read(), whatever the number is. */
+    /** Nothing can be read now: NO as read() for what might be a word's number, BAD for what never is. */
     private static void doubtIsNo(DrumTongue x, String when) {
         long before = x.digest();
-        for (int i : new int[] {0, 1, 11, 12, 59, 60, 26283632, -1, -2, MAX, MIN}) {
+        for (int i : new int[] {0, 1, 11, 12, 59, 60, 26283632, MAX}) {
             Checks.dueAndNothingChanged(x, before, "doubt(" + i + ") " + when, x.doubt(i), NO);
+        }
+        for (int i : new int[] {-1, -2, -3, -12, -100, -26283632, MIN + 1, MIN}) {
+            Checks.dueAndNothingChanged(x, before, "doubt(" + i + ") " + when, x.doubt(i), BAD);
         }
     }
 

@@ -417,11 +417,14 @@ final class PlainTongue {
     }
 
     int doubt(int i) {
+        if (i < 0) {
+            return BAD;
+        }
         if (speakable().isEmpty()) {
             return NO;
         }
         Reading now = readByParts();
-        return i < 0 || i >= now.words.size() ? BAD : doubtIn(now, i);
+        return i >= now.words.size() ? BAD : doubtIn(now, i);
     }
 
     private int doubtIn(Reading now, int i) {
