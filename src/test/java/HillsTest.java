@@ -225,6 +225,14 @@ public final class HillsTest {
         y.hill(2, 3, 999, 1);
         dueTimes(y, 0, 3, 870000000, 3, 1, 1);
         dueTimes(y, 0, 3, 874999000, 3, 1, 2);
+        // 1 and 2 are 782000000, 1 and 3 are 797300000: first by the steps, but 2 and 1 are fewer.
+        DrumTongue z = new DrumTongue();
+        z.hill(0, 1, 800, 1);
+        z.hill(1, 2, 850, 1);
+        dueTimes(z, 0, 2, 782000000, 1, 2);
+        dueTimes(z, 0, 2, 790000000, 2, 1);
+        dueTimes(z, 0, 2, 816000000, 2, 1);
+        dueTimes(z, 0, 2, 816000001, 2, 2);
     }
 
     private static void enoughIsCut() {

@@ -199,6 +199,10 @@ final class PlainTongue {
         return looks;
     }
 
+    boolean foundARow() {
+        return leastRow != null;
+    }
+
     private void look(List<Phrase> row, int beats) {
         if (row.size() == words.size()) {
             fewest = beats;

@@ -112,13 +112,22 @@ public final class WordsTest {
         Checks.due("read last after word()", x.readAt(0), 0);
         Checks.due("heard after word()", x.count(5), 2);
         x.choose();
+        dueHeardAndRead(x, "choose()");
         x.ending(1, 0);
         Checks.due("phrases after ending()", x.count(3), 0);
-        Checks.due("read last after ending()", x.count(7), 1);
-        x.choose();
+        dueHeardAndRead(x, "ending()");
+        Checks.due("least()", x.least(), 4);
+        dueHeardAndRead(x, "least()");
         x.bound(1);
         Checks.due("phrases after bound()", x.count(3), 0);
         Checks.due("drum(0) after bound()", x.drum(0), NO);
+        dueHeardAndRead(x, "bound()");
+    }
+
+    private static void dueHeardAndRead(DrumTongue x, String after) {
+        Checks.due("heard after " + after, x.count(5), 2);
+        Checks.due("words read last after " + after, x.count(7), 1);
+        Checks.due("the word read last after " + after, x.readAt(0), 0);
     }
 
     private static void orderOfPhrases() {
