@@ -79,7 +79,7 @@ public final class RunTest {
 
     /** Started from another folder, since the script finds its project by itself. */
     private void start() throws IOException {
-        process = Folders.start(root, printed, "main/.ci/run");
+        process = Folders.start(root, printed, "bash", "main/.ci/run");
     }
 
     private void finish() throws IOException, InterruptedException {
