@@ -17,7 +17,6 @@ public final class RunTest {
     private final Path root;
     private final Path printed;
     private final String told;
-    private Process process;
 
     private RunTest(String name, String told) throws IOException {
         this.name = name;
@@ -40,10 +39,7 @@ public final class RunTest {
         all.add(project("no test of the project is there", null, program, null, ENDS_WELL));
         all.add(project("two tests fail", "1 passed, 2 failed", program, ENDS_BADLY, ENDS_BADLY));
         for (RunTest one : all) {
-            one.start();
-        }
-        for (RunTest one : all) {
-            one.finish();
+            one.run();
         }
         Checks.finish("RunTest");
     }
@@ -78,12 +74,8 @@ public final class RunTest {
     }
 
     /** Started from another folder, since the script finds its project by itself. */
-    private void start() throws IOException {
-        process = Folders.start(root, printed, "bash", "main/.ci/run");
-    }
-
-    private void finish() throws IOException, InterruptedException {
-        int code = process.waitFor();
+    private void run() throws IOException, InterruptedException {
+        int code = Folders.start(root, printed, "bash", "main/.ci/run").waitFor();
         List<String> lines = Files.readAllLines(printed);
         String last = lines.isEmpty() ? "" : lines.get(lines.size() - 1);
         Checks.dueThat("exit code " + code + " where " + name + ": " + lines, code == 0 == ALL_WELL.equals(told));
